@@ -487,14 +487,12 @@ public final class CardSwitch {
         return fee;
     }
 
-    /** The callers have seen that there is room; a row is blanked, for a crash may have left it full. */
+    /** The callers have seen that there is room. */
     private Payment enterKey(int acquirer, int trace) {
         startChange(null, null);
         Payment payment = payments[paymentCount];
         paymentCount++;
-        payment.blank();
-        payment.acquirer = acquirer;
-        payment.trace = trace;
+        payment.begin(acquirer, trace);
         return payment;
     }
 
@@ -511,11 +509,14 @@ public final class CardSwitch {
         change.ledger.copyFrom(ledger);
         change.route = route;
         if (route != null) {
-            change.oldRoute.copyFrom(route);
+            change.issuer = route.issuer;
+            change.rate = route.rate;
         }
         change.payment = payment;
         if (payment != null) {
-            change.oldPayment.copyFrom(payment);
+            change.phase = payment.phase;
+            change.amount = payment.amount;
+            change.since = payment.since;
         }
     }
 
@@ -524,11 +525,16 @@ public final class CardSwitch {
         cardCount = change.cardCount;
         paymentCount = change.paymentCount;
         ledger.copyFrom(change.ledger);
-        if (change.route != null) {
-            change.route.copyFrom(change.oldRoute);
+        Route route = change.route;
+        if (route != null) {
+            route.issuer = change.issuer;
+            route.rate = change.rate;
         }
-        if (change.payment != null) {
-            change.payment.copyFrom(change.oldPayment);
+        Payment payment = change.payment;
+        if (payment != null) {
+            payment.phase = change.phase;
+            payment.amount = change.amount;
+            payment.since = change.since;
         }
     }
 
@@ -536,12 +542,6 @@ public final class CardSwitch {
         int prefix;
         int issuer;
         int rate;
-
-        void copyFrom(Route other) {
-            prefix = other.prefix;
-            issuer = other.issuer;
-            rate = other.rate;
-        }
     }
 
     private static final class Card {
@@ -566,9 +566,10 @@ public final class CardSwitch {
         int issuer;
         int rate;
 
-        void blank() {
-            acquirer = 0;
-            trace = 0;
+        /** Sets every field, for a crash may have left the row with what a lost key had. */
+        void begin(int newAcquirer, int newTrace) {
+            acquirer = newAcquirer;
+            trace = newTrace;
             phase = NOT_IN_USE;
             amount = 0;
             since = 0;
@@ -579,21 +580,6 @@ public final class CardSwitch {
             answer = 0;
             issuer = 0;
             rate = 0;
-        }
-
-        void copyFrom(Payment other) {
-            acquirer = other.acquirer;
-            trace = other.trace;
-            phase = other.phase;
-            amount = other.amount;
-            since = other.since;
-            approvedAt = other.approvedAt;
-            number = other.number;
-            asked = other.asked;
-            partial = other.partial;
-            answer = other.answer;
-            issuer = other.issuer;
-            rate = other.rate;
         }
     }
 
@@ -647,15 +633,21 @@ public final class CardSwitch {
         }
     }
 
-    /** What was there before an unwritten change. */
+    /**
+     * What was there before an unwritten change. It keeps only what can be altered in a row that is there
+     * already: of a route the issuer and the rate, of a key the phase, the amount and the clock.
+     */
     private static final class Change {
         int routeCount;
         int cardCount;
         int paymentCount;
         final Ledger ledger = new Ledger();
         Route route;
-        final Route oldRoute = new Route();
+        int issuer;
+        int rate;
         Payment payment;
-        final Payment oldPayment = new Payment();
+        int phase;
+        int amount;
+        int since;
     }
 }

@@ -162,6 +162,31 @@ public final class Promise13CrashTest {
     }
 
     private static void theClockStays(Script script) {
+        script.run("a hold that comes back has its own clock", START, """
+            tick(5) = 5
+            authorise(1, 8, 10000008, 100, false) = 100
+            flush() = 1
+            tick(20) = 25
+            present(1, 8, 100) = 4
+            crash(1) = true
+            tick(29) = 54
+            state(1, 8) = 2
+            tick(1) = 55
+            state(1, 8) = 3
+            """);
+        script.run("so has a clearing", START, """
+            tick(5) = 5
+            present(1, 7, 500) = 20
+            flush() = 1
+            tick(20) = 25
+            chargeback(1, 7) = 500
+            crash(1) = true
+            tick(10) = 35
+            chargeback(1, 7) = 500
+            crash(1) = true
+            tick(1) = 36
+            chargeback(1, 7) = LATE
+            """);
         script.run("a hold that comes back has lapsed", START, """
             tick(49) = 49
             present(1, 7, 500) = 20
