@@ -1,4 +1,5 @@
 import java.lang.reflect.Method;
+import java.util.List;
 
 /**
  * Runs calls written as text, one on a line: {@code present(1, 7, 3500) = 140}. An answer may be a
@@ -7,8 +8,8 @@ import java.lang.reflect.Method;
 final class Script {
     private int wrong = 0;
 
-    /** Runs the lines on a new object. */
-    void run(String title, String... texts) {
+    /** Runs the lines on a new object, and hands it out for what is easier asked in Java. */
+    CardSwitch run(String title, String... texts) {
         CardSwitch subject = new CardSwitch();
         for (String text : texts) {
             for (String line : text.split("\n")) {
@@ -17,6 +18,7 @@ final class Script {
                 }
             }
         }
+        return subject;
     }
 
     /** The line once for each number first .. last, which stands in for every # in it. */
@@ -28,11 +30,36 @@ final class Script {
         return text.toString();
     }
 
+    /** The line once for each of the values, which stands in for every # in it. */
+    static String each(String line, long... values) {
+        StringBuilder text = new StringBuilder();
+        for (long value : values) {
+            text.append(line.replace("#", Long.toString(value))).append('\n');
+        }
+        return text.toString();
+    }
+
+    /** What lies just outside of a range on both sides, and the least and greatest int. */
+    static long[] outside(int low, int high) {
+        return new long[] {low - 1, high + 1, Integer.MIN_VALUE, Integer.MAX_VALUE};
+    }
+
     void due(String title, String what, String got, String want) {
         if (!got.equals(want)) {
             wrong++;
             System.out.println(title + ": " + what + " answered " + got + ", due is " + want);
         }
+    }
+
+    /** Compares two lists of answers, and tells the first place where they are not alike. */
+    void alike(String title, String what, List<String> got, List<String> want) {
+        for (int i = 0; i < Math.min(got.size(), want.size()); i++) {
+            if (!got.get(i).equals(want.get(i))) {
+                due(title, what + ", then", got.get(i), want.get(i));
+                return;
+            }
+        }
+        due(title, what + ", the number of answers", "" + got.size(), "" + want.size());
     }
 
     /** Ends the program with exit code 1 if an answer was wrong. */
