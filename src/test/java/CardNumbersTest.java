@@ -84,7 +84,8 @@ public final class CardNumbersTest {
     private static void outside() {
         long[] numbers = {0, 1, -1, 18, 59, 9999999, 9999996, 9999993, 1000009, 8, 100000000, 100000008, 100000009, 110000008,
             1000000080, 2100000000, 2110000008, -10000008, -12034567, -99999997, Integer.MIN_VALUE, Integer.MAX_VALUE};
-        SCRIPT.run("not 10000000 .. 99999999", Script.each("card(#, 0, 0) = BAD\n authorise(0, 1, #, 1, false) = BAD", numbers), "unwritten() = 0");
+        SCRIPT.run("not 10000000 .. 99999999", Script.each("card(#, 0, 0) = BAD", numbers),
+            Script.each("authorise(0, 1, #, 1, false) = BAD", numbers), "unwritten() = 0");
     }
 
     private static void ends() {
@@ -110,15 +111,22 @@ public final class CardNumbersTest {
         for (int prefix : new int[] {1, 12, 120, 1203}) {
             SCRIPT.run(prefix + " fits", card, "route(" + prefix + ", 0, 0) = true", "authorise(0, 1, 12034567, 1, false) = 1");
         }
-        for (int prefix : new int[] {2, 13, 11, 121, 119, 1204, 1202, 20, 203, 2034, 7, 67, 567, 4567, 3456, 10, 100, 1000, 9999}) {
-            SCRIPT.run(prefix + " does not fit", card, "route(" + prefix + ", 0, 0) = true", "authorise(0, 1, 12034567, 1, false) = UNROUTED");
+        int[] others = {2, 13, 11, 121, 119, 1204, 1202, 20, 203, 2034, 7, 67, 567, 4567, 3456, 10, 100, 1000, 9999};
+        for (int prefix : others) {
+            SCRIPT.run(prefix + " does not fit", card, "route(" + prefix + ", 0, 0) = true",
+                "authorise(0, 1, 12034567, 1, false) = UNROUTED");
         }
         int[] fitting = {1, 12, 120, 1203};
         for (int longer = 1; longer < 4; longer++) {
             for (int shorter = 0; shorter < longer; shorter++) {
                 String one = "route(" + fitting[longer] + ", 1, 1000) = true\n";
                 String other = "route(" + fitting[shorter] + ", 2, 2000) = true\n";
-                String use = "authorise(0, 1, 12034567, 100, false) = 100\n present(0, 1, 100) = 10\n position(5) = -93\n position(6) = 0\n";
+                String use = """
+                    authorise(0, 1, 12034567, 100, false) = 100
+                    present(0, 1, 100) = 10
+                    position(5) = -93
+                    position(6) = 0
+                    """;
                 SCRIPT.run("the longer one, entered first", card, one, other, "route(9999, 3, 0) = true", use);
                 SCRIPT.run("the longer one, entered last", card, "route(9999, 3, 0) = true", other, one, use);
             }

@@ -66,8 +66,8 @@ public final class ClocksTest {
                     """);
             }
         }
-        SCRIPT.run("a hold that is very old", START, at(c), "authorise(0, 1, 10000008, 600, false) = 600", ticks(c, c + 4000, 100),
-            "state(0, 1) = 3", "held(0, 1) = 0", "available(10000008) = 1000", "present(0, 1, 600) = 24");
+        SCRIPT.run("a hold that is very old", START, at(c), "authorise(0, 1, 10000008, 600, false) = 600",
+            ticks(c, c + 4000, 100), "state(0, 1) = 3", "held(0, 1) = 0", "available(10000008) = 1000", "present(0, 1, 600) = 24");
     }
 
     /** "CHARGED: .. the clock is at most c + 30; CLOSED: as 7, where the clock is more than c + 30; it is blocked no more". */
@@ -269,7 +269,8 @@ public final class ClocksTest {
             available(10000008) = 0
             """;
         SCRIPT.run("held at 49, nothing more is available", START, spent, "present(0, 1, 600) = 24", "available(10000008) = 0");
-        SCRIPT.run("lapsed at 50, 600 are available", START, spent, "tick(1) = 50", "present(0, 1, 600) = 24", "available(10000008) = 0");
+        SCRIPT.run("lapsed at 50, 600 are available", START, spent, "tick(1) = 50",
+            "present(0, 1, 600) = 24", "available(10000008) = 0");
         SCRIPT.run("lapsed at 50, 599 are available", START, spent, """
             tick(1) = 50
             authorise(0, 3, 10000008, 1, false) = 1
@@ -340,7 +341,8 @@ public final class ClocksTest {
             """);
         SCRIPT.run("the clock of approval counts, not that of the presentment", START,
             Script.lines("authorise(0, #, 10000008, 10, false) = 10", 1, 4), "tick(9) = 9",
-            Script.lines("present(0, #, 10) = 1", 1, 4), "tick(1) = 10", "authorise(0, 5, 10000008, 10, false) = 10");
+            Script.lines("present(0, #, 10) = 1", 1, 4), Script.lines("authorise(0, #, 10000008, 10, false) = 10", 1, 4),
+            "tick(1) = 10", "authorise(0, 5, 10000008, 10, false) = 10");
         SCRIPT.run("repeats do not count", START, """
             authorise(0, 1, 10000008, 10, false) = 10
             authorise(0, 1, 10000008, 10, false) = 10

@@ -14,6 +14,7 @@ public final class LimitsTest {
         keys();
         keysWhenFull();
         unwritten();
+        items();
         available();
         SCRIPT.finish();
     }
@@ -57,6 +58,16 @@ public final class LimitsTest {
             position(7) = -93
             """);
         SCRIPT.run("also where it had them before", SIX_ROUTES, "route(6, 0, 100) = true", "unwritten() = 1");
+        SCRIPT.run("no two with the same prefix: one that comes again takes no room",
+            Script.each("route(1, 0, #) = true", 1, 2, 3, 4, 5, 6, 7, 8), Script.lines("route(#, 0, 100) = true", 2, 6), """
+            unwritten() = 13
+            route(7, 0, 100) = false
+            route(1, 1, 1000) = true
+            card(10000008, 1000, 0) = 1
+            authorise(0, 1, 10000008, 100, false) = 100
+            present(0, 1, 100) = 10
+            position(5) = -93
+            """);
         SCRIPT.run("a new prefix that begins with one that is there is new", SIX_ROUTES, "route(11, 0, 100) = false",
             "route(60, 0, 100) = false", "unwritten() = 0");
         SCRIPT.run("a lost route makes room", Script.lines("route(#, 0, 100) = true", 1, 6), """
@@ -77,7 +88,8 @@ public final class LimitsTest {
     private static void cards() {
         StringBuilder eight = new StringBuilder();
         for (int i = 0; i < 8; i++) {
-            eight.append("card(" + Scenes.EIGHT_CARDS[i] + ", " + (10 + i) + ", 0) = " + (i + 1) + "\n unwritten() = " + (i + 1) + "\n");
+            eight.append("card(" + Scenes.EIGHT_CARDS[i] + ", " + (10 + i) + ", 0) = " + (i + 1) + "\n");
+            eight.append("unwritten() = " + (i + 1) + "\n");
         }
         SCRIPT.run("at most 8 cards: the last that goes in, the first that doesn't", eight.toString(), """
             card(90000001, 10, 0) = FULL
@@ -126,7 +138,8 @@ public final class LimitsTest {
             state(3, 41) = 0
             """);
         SCRIPT.run("all four acquirers share them", Script.lines("reverse(#, 1, 0) = 0", 0, 3),
-            Script.lines("reverse(1, #, 0) = 0", 2, 37), "reverse(2, 9999, 0) = FULL", "authorise(0, 9999, 10000008, 1, false) = FULL");
+            Script.lines("reverse(1, #, 0) = 0", 2, 37), "reverse(2, 9999, 0) = FULL",
+            "authorise(0, 9999, 10000008, 1, false) = FULL");
         SCRIPT.run("a refused call takes no key", """
             authorise(0, 1, 10000007, 1, false) = BAD
             authorise(0, 2, 10000008, 0, false) = BAD
@@ -146,10 +159,11 @@ public final class LimitsTest {
             """);
     }
 
-    /** A key that is in use is answered as ever; one that is released or written still takes its room. */
+    /** A key that is in use is answered as ever; one that is released still takes its room. */
     private static void keysWhenFull() {
         SCRIPT.run("requests under keys in use", FULL_OF_KEYS,
-            Script.lines("authorise(0, #, 90000001, 100, false) = UNKNOWN\n authorise(0, #, 90000001, 100, true) = DUPLICATE", 1, 10),
+            Script.lines("authorise(0, #, 90000001, 100, false) = UNKNOWN", 1, 10),
+            Script.lines("authorise(0, #, 90000001, 100, true) = DUPLICATE", 1, 10),
             Script.lines("authorise(1, #, 10000008, 100, false) = 100", 1, 4),
             Script.lines("authorise(1, #, 10000008, 100, false) = BUSY", 5, 10),
             Script.lines("authorise(2, #, 10000008, 100, false) = REVERSED", 1, 10), """
@@ -219,11 +233,65 @@ public final class LimitsTest {
             """);
     }
 
+    /** "When that is 0, nothing happens; otherwise each party's position is added to its settled sum and becomes 0". */
+    private static void items() {
+        String oneByOne = """
+            route(1, ISSUER, 1000) = true
+            card(10000008, 1000, 0) = 1
+            authorise(ACQUIRER, 1, 10000008, 100, false) = 100
+            cutoff() = 0
+            unwritten() = 3
+            present(ACQUIRER, 1, 100) = 10
+            reconcile(ACQUIRER, 1, 100) = true
+            reconcile(ACQUIRER, 0, 0) = false
+            cutoff() = 1
+            unwritten() = 5
+            reconcile(ACQUIRER, 0, 0) = true
+            reconcile(ACQUIRER, 1, 100) = false
+            cutoff() = 0
+            unwritten() = 5
+            settled(ACQUIRER) = 90
+            settled(PARTY) = -93
+            settled(8) = 3
+            position(PARTY) = 0
+            chargeback(ACQUIRER, 1) = 100
+            position(ACQUIRER) = -100
+            position(PARTY) = 100
+            cutoff() = 1
+            cutoff() = 0
+            settled(ACQUIRER) = -10
+            settled(PARTY) = 7
+            settled(8) = 3
+            represent(ACQUIRER, 1) = 100
+            position(ACQUIRER) = 100
+            position(PARTY) = -100
+            position(8) = 0
+            cutoff() = 1
+            cutoff() = 0
+            settled(ACQUIRER) = 90
+            settled(PARTY) = -93
+            settled(8) = 3
+            unwritten() = 9
+            """;
+        for (int bank = 0; bank <= 3; bank++) {
+            SCRIPT.run("one item is enough, none is not", oneByOne.replace("ACQUIRER", "" + bank)
+                .replace("ISSUER", "" + (3 - bank)).replace("PARTY", "" + (7 - bank)));
+        }
+        SCRIPT.run("items that come to nothing are items", """
+            route(1, 0, 0) = true
+            card(10000008, 1000, 0) = 1
+            authorise(0, 1, 10000008, 100, false) = 100
+            present(0, 1, 100) = 0
+            chargeback(0, 1) = 100
+            """, Script.lines("position(#) = 0", 0, 8), "cutoff() = 2", "unwritten() = 6", "cutoff() = 0");
+    }
+
     /** "The amount, when that much is available; what is available, when that is 1 or more and partial is true". */
     private static void available() {
-        String[] exact = {"7, false) = 7", "7, true) = 7", "8, false) = SHORT", "8, true) = 7", "6, false) = 6", "100000, true) = 7"};
-        for (String request : exact) {
-            SCRIPT.run("7 are available", "route(1, 0, 0) = true", "card(10000008, 2, -5) = 1", "authorise(0, 1, 10000008, " + request);
+        String[] ends = {"7, false) = 7", "7, true) = 7", "8, false) = SHORT", "8, true) = 7", "6, false) = 6", "100000, true) = 7"};
+        for (String end : ends) {
+            SCRIPT.run("7 are available", "route(1, 0, 0) = true", "card(10000008, 2, -5) = 1",
+                "authorise(0, 1, 10000008, " + end);
         }
         SCRIPT.run("1 is available, then 0", """
             route(1, 0, 0) = true

@@ -8,8 +8,9 @@ import java.util.List;
  */
 public final class LostChangesTest {
     private static final Script SCRIPT = new Script();
+    private static final String FLUSHED = Scenes.EVERY_STATE + "flush() = 16\n";
 
-    /** One of every kind, each of which can be done after EVERY_STATE. */
+    /** Some of every kind, each of which can be done after EVERY_STATE. */
     private static final String[] FURTHER = {
         "route(2, 1, 50) = true",
         "route(1, 0, 2000) = true",
@@ -34,29 +35,31 @@ public final class LostChangesTest {
         theLatestOfSixteen();
         withTicksBetween();
         aSeventeenth();
+        anApprovalAsTheSeventeenth();
         eachKindAlone();
-        anApprovalAlone();
         secondAndThirdSixteen();
         aCrashOfNoneIsAFlush();
         changesAfterACrash();
+        otherKeysAfterACrash();
         SCRIPT.finish();
     }
 
     private static String join(List<String> lines) {
-        return String.join("\n", lines) + "\n";
+        return String.join("\n", lines);
     }
 
-    private static void compare(String title, String lost, String never) {
-        SCRIPT.alike(title, "after all", Answers.of(SCRIPT.run(title, lost)), Answers.of(SCRIPT.run(title, never)));
+    private static void compare(String title, List<String> lost, List<String> never) {
+        CardSwitch one = SCRIPT.run(title, lost.toArray(new String[0]));
+        CardSwitch other = SCRIPT.run(title, never.toArray(new String[0]));
+        SCRIPT.alike(title, "after all", Answers.of(one), Answers.of(other));
     }
 
     private static void theLatestOfSixteen() {
         List<String> changes = Arrays.asList(Scenes.CHANGES);
         for (int n = 0; n <= 16; n++) {
-            String kept = Scenes.WRITTEN + join(changes.subList(0, 16 - n));
             compare("the latest " + n + " of 16 are lost",
-                Scenes.EVERY_STATE + "crash(" + n + ") = true\n unwritten() = 0\n crash(1) = false\n",
-                kept + "flush() = " + (16 - n));
+                List.of(Scenes.EVERY_STATE, "crash(" + n + ") = true", "unwritten() = 0", "crash(1) = false"),
+                List.of(Scenes.WRITTEN, join(changes.subList(0, 16 - n)), "flush() = " + (16 - n)));
         }
     }
 
@@ -75,61 +78,87 @@ public final class LostChangesTest {
                 kept.add(tick);
             }
             compare("the latest " + n + " of 16 are lost, the ticks are not",
-                Scenes.WRITTEN + join(all) + "crash(" + n + ") = true\n", Scenes.WRITTEN + join(kept) + "flush() = " + (16 - n));
+                List.of(Scenes.WRITTEN, join(all), "crash(" + n + ") = true"),
+                List.of(Scenes.WRITTEN, join(kept), "flush() = " + (16 - n)));
         }
     }
 
     /** "These 16 are written first, and the new one is the only unwritten one." */
     private static void aSeventeenth() {
         for (String change : FURTHER) {
-            String all = Scenes.EVERY_STATE + change + "\n unwritten() = 1\n crash(2) = false\n";
-            compare("the 17th is lost: " + change, all + "crash(1) = true\n", Scenes.EVERY_STATE + "flush() = 16\n");
-            compare("the 17th is written: " + change, all + "flush() = 1\n", Scenes.EVERY_STATE + "flush() = 16\n" + change + "\n flush() = 1\n");
-        }
-    }
-
-    private static void eachKindAlone() {
-        String written = Scenes.EVERY_STATE + "flush() = 16\n";
-        for (String change : FURTHER) {
-            compare("lost: " + change, written + change + "\n unwritten() = 1\n crash(1) = true\n", written);
-            compare("lost with another: " + change, written + "reverse(0, 9999, 0) = 0\n" + change + "\n unwritten() = 2\n crash(2) = true\n", written);
-            compare("lost and done again: " + change, written + change + "\n crash(1) = true\n" + change + "\n flush() = 1\n", written + change + "\n flush() = 1\n");
+            compare("the 17th is lost: " + change,
+                List.of(Scenes.EVERY_STATE, change, "unwritten() = 1", "crash(2) = false", "crash(1) = true"), List.of(FLUSHED));
+            compare("the 17th is written: " + change,
+                List.of(Scenes.EVERY_STATE, change, "flush() = 1"), List.of(FLUSHED, change, "flush() = 1"));
         }
     }
 
     /** EVERY_STATE is BUSY at its clock, so the approvals come ten later. */
-    private static void anApprovalAlone() {
-        String later = Scenes.EVERY_STATE + "tick(10) = 60\n";
-        for (String approval : new String[] {"authorise(1, 11, 10000008, 100, false) = 100", "authorise(0, 1, 10000008, 2000, true) = 1500"}) {
-            compare("a 17th that is approved is lost", later + approval + "\n unwritten() = 1\n crash(1) = true\n", later + "flush() = 16\n");
-            compare("a 17th that is approved stays", later + approval + "\n crash(0) = true\n", later + "flush() = 16\n" + approval + "\n flush() = 1\n");
+    private static void anApprovalAsTheSeventeenth() {
+        String[] approvals = {"authorise(1, 11, 10000008, 100, false) = 100", "authorise(0, 1, 10000008, 2000, true) = 1500"};
+        for (String approval : approvals) {
+            compare("an approval is lost",
+                List.of(Scenes.EVERY_STATE, "tick(10) = 60", approval, "unwritten() = 1", "crash(1) = true"),
+                List.of(FLUSHED, "tick(10) = 60"));
+            compare("an approval stays",
+                List.of(Scenes.EVERY_STATE, "tick(10) = 60", approval, "crash(0) = true"),
+                List.of(FLUSHED, "tick(10) = 60", approval, "flush() = 1"));
         }
     }
 
-    /** The rows for unwritten changes are used again and again: 33 changes, of which the latest is lost. */
+    private static void eachKindAlone() {
+        for (String change : FURTHER) {
+            compare("lost: " + change, List.of(FLUSHED, change, "unwritten() = 1", "crash(1) = true"), List.of(FLUSHED));
+            compare("lost with another: " + change,
+                List.of(FLUSHED, "reverse(0, 9999, 0) = 0", change, "unwritten() = 2", "crash(2) = true"), List.of(FLUSHED));
+            compare("lost and done again: " + change,
+                List.of(FLUSHED, change, "crash(1) = true", change, "flush() = 1"), List.of(FLUSHED, change, "flush() = 1"));
+        }
+    }
+
+    /** The rows for unwritten changes are used again and again. */
     private static void secondAndThirdSixteen() {
-        String routes = Script.each("route(1, 1, #) = true", 1, 2, 3, 4, 5, 6, 7, 8, 9, 10, 11, 12, 13, 14, 15, 16);
-        compare("32 changes, 16 are lost", Scenes.EVERY_STATE + routes + "unwritten() = 16\n crash(17) = false\n crash(16) = true\n",
-            Scenes.EVERY_STATE + "flush() = 16\n");
-        compare("33 changes, 1 is lost", Scenes.EVERY_STATE + routes + "route(1, 0, 2000) = true\n unwritten() = 1\n crash(1) = true\n",
-            Scenes.EVERY_STATE + routes + "flush() = 16\n");
+        String sixteen = Script.lines("route(1, 1, #) = true", 1, 16);
+        compare("32 changes, 16 are lost",
+            List.of(Scenes.EVERY_STATE, sixteen, "unwritten() = 16", "crash(17) = false", "crash(16) = true"), List.of(FLUSHED));
+        compare("33 changes, 1 is lost",
+            List.of(Scenes.EVERY_STATE, sixteen, "route(1, 0, 2000) = true", "unwritten() = 1", "crash(1) = true"),
+            List.of(FLUSHED, sixteen, "flush() = 16"));
     }
 
     /** "With n = 0 it does what flush does." */
     private static void aCrashOfNoneIsAFlush() {
-        compare("16 unwritten", Scenes.EVERY_STATE + "crash(0) = true\n", Scenes.EVERY_STATE + "flush() = 16\n");
-        compare("none unwritten", Scenes.WRITTEN + "crash(0) = true\n", Scenes.WRITTEN + "flush() = 0\n");
-        compare("a new object", "crash(0) = true\n", "flush() = 0\n");
+        compare("16 unwritten", List.of(Scenes.EVERY_STATE, "crash(0) = true"), List.of(FLUSHED));
+        compare("none unwritten", List.of(Scenes.WRITTEN, "crash(0) = true"), List.of(Scenes.WRITTEN, "flush() = 0"));
+        compare("a new object", List.of("crash(0) = true"), List.of("flush() = 0"));
     }
 
     /** What a crash left is written, and what comes then can be lost without it. */
     private static void changesAfterACrash() {
         List<String> changes = Arrays.asList(Scenes.CHANGES);
         for (int n = 1; n <= 16; n++) {
-            String back = Scenes.EVERY_STATE + "crash(" + n + ") = true\n";
+            String crash = "crash(" + n + ") = true";
             String again = join(changes.subList(16 - n, 16));
-            compare("lost and done again, " + n, back + again + "flush() = " + n, Scenes.EVERY_STATE + "flush() = 16\n");
-            compare("lost, done again and lost again, " + n, back + again + "crash(" + n + ") = true\n", back);
+            compare("lost and done again, " + n, List.of(Scenes.EVERY_STATE, crash, again, "flush() = " + n), List.of(FLUSHED));
+            compare("lost, done again and lost again, " + n,
+                List.of(Scenes.EVERY_STATE, crash, again, crash), List.of(Scenes.EVERY_STATE, crash));
         }
+    }
+
+    /** Nothing of the lost keys may come back with the keys that come into use next. */
+    private static void otherKeysAfterACrash() {
+        String young = "route(1, 2, 400) = true\n card(10000008, 2000, 0) = 1\n flush() = 2\n";
+        String stops = Script.lines("reverse(0, #, 0) = 0", 1, 4);
+        String declined = Script.lines("authorise(2, #, 10000008, 100, true) = BUSY", 1, 4);
+        String approved = Script.lines("authorise(1, #, 10000008, 100, true) = 100", 5, 8);
+        String others = Script.lines("authorise(2, #, 10000008, 50, false) = 50", 1, 4);
+        for (String start : new String[] {young, Scenes.WRITTEN}) {
+            compare("stopped keys in place of approvals", List.of(start, approved, "crash(4) = true", stops), List.of(start, stops));
+            compare("approvals in place of disputes",
+                List.of(start, approved, "present(1, 5, 100) = 4", "chargeback(1, 5) = 100", "crash(6) = true", others),
+                List.of(start, others));
+        }
+        compare("declined keys in place of stopped ones",
+            List.of(FLUSHED, stops, "crash(4) = true", declined), List.of(FLUSHED, declined));
     }
 }

@@ -71,7 +71,7 @@ public final class NothingAlteredTest {
             """);
     }
 
-    /** "REVERSED when it is STOPPED; else .. what that request was answered .., otherwise DUPLICATE; none of these is a change". */
+    /** "REVERSED ..; else .. what that request was answered .., otherwise DUPLICATE; none of these is a change." */
     private static void requests(Twins twins) {
         twins.unaltered(
             "authorise(1, 1, 10000008, 100, false) = BUSY",
@@ -189,7 +189,7 @@ public final class NothingAlteredTest {
             """);
     }
 
-    /** "False .. when the prefix is new and 6 routes are there", "FULL when 8 cards are there", "FULL when 40 keys are in use". */
+    /** "When the prefix is new and 6 routes are there", "when 8 cards are there", "when 40 keys are in use". */
     private static void fullObject() {
         new Twins(SCRIPT, "a full object", Scenes.full()).unaltered("""
             route(7, 0, 100) = false

@@ -138,7 +138,10 @@ public final class RangesTest {
         String key = acquirer + ", " + trace;
         SCRIPT.run("the life of key " + key, life.replace("KEY", key).replace("ACQUIRER", "" + acquirer));
         SCRIPT.run("the stopped key " + key,
-            ("reverse(KEY, 0) = 0\n state(KEY) = 5\n authorise(KEY, 10000008, 1, true) = REVERSED\n unwritten() = 1").replace("KEY", key));
+            "reverse(" + key + ", 0) = 0",
+            "state(" + key + ") = 5",
+            "authorise(" + key + ", 10000008, 1, true) = REVERSED",
+            "unwritten() = 1");
     }
 
     /** Amounts 1 .. 100000, in every state that a key can be in. */
@@ -215,7 +218,8 @@ public final class RangesTest {
             String changes = Script.lines("reverse(0, #, 0) = 0", 1, unwritten);
             String refusals = Script.each("crash(#) = false", Script.outside(0, unwritten)) + "unwritten() = " + unwritten + "\n";
             for (int n : new int[] {0, unwritten}) {
-                SCRIPT.run(unwritten + " unwritten, " + n + " are lost", changes, refusals, "crash(" + n + ") = true", "unwritten() = 0",
+                SCRIPT.run(unwritten + " unwritten, " + n + " are lost", changes, refusals,
+                    "crash(" + n + ") = true", "unwritten() = 0",
                     Script.lines("state(0, #) = 5", 1, unwritten - n), Script.lines("state(0, #) = 0", unwritten - n + 1, 17));
             }
         }
@@ -257,7 +261,8 @@ public final class RangesTest {
             SUM(8) = 50
             """ + Script.each("SUM(#) = 0", Script.outside(0, 8));
         SCRIPT.run("the nine positions", payments, sums.replace("SUM", "position"), Script.lines("settled(#) = 0", 0, 8));
-        SCRIPT.run("the nine settled sums", payments, "cutoff() = 4", sums.replace("SUM", "settled"), Script.lines("position(#) = 0", 0, 8));
+        SCRIPT.run("the nine settled sums", payments, "cutoff() = 4", sums.replace("SUM", "settled"),
+            Script.lines("position(#) = 0", 0, 8));
     }
 
     /** "False when the acquirer is not 0 .. 3", also where 0 and 0 would be true of an acquirer. */
@@ -279,6 +284,7 @@ public final class RangesTest {
     private static void anyIntAsANumber(Twins twins) {
         twins.unaltered(Script.each("available(#) = UNKNOWN", 0, 1, -1, 9999999, 10000000, 99999999, 100000000,
             Integer.MIN_VALUE, Integer.MAX_VALUE, 10000007, 10000009, -10000008, 20000006, 99999997));
-        SCRIPT.run("nothing entered", Script.each("available(#) = UNKNOWN", 0, -1, 10000008, Integer.MIN_VALUE, Integer.MAX_VALUE));
+        SCRIPT.run("nothing entered",
+            Script.each("available(#) = UNKNOWN", 0, -1, 10000008, Integer.MIN_VALUE, Integer.MAX_VALUE));
     }
 }

@@ -120,10 +120,12 @@ public final class RefusalOrderTest {
 
     private static void reversals() {
         for (String left : new String[] {"-1", "100001", "-2147483648", "2147483647"}) {
-            SCRIPT.run("BAD before LATE and before 0", Scenes.EVERY_STATE, Script.lines("reverse(1, #, " + left + ") = BAD", 1, 11));
+            SCRIPT.run("BAD before LATE and before 0", Scenes.EVERY_STATE,
+                Script.lines("reverse(1, #, " + left + ") = BAD", 1, 11));
             SCRIPT.run("BAD before FULL", FULL, "reverse(0, 11, " + left + ") = BAD", "reverse(2, 1, " + left + ") = BAD");
         }
-        SCRIPT.run("a wrong key before FULL", FULL, "reverse(4, 1, 0) = BAD", "reverse(0, 0, 0) = BAD", "reverse(0, 10000, 0) = BAD");
+        SCRIPT.run("a wrong key before FULL", FULL,
+            "reverse(4, 1, 0) = BAD", "reverse(0, 0, 0) = BAD", "reverse(0, 10000, 0) = BAD");
         SCRIPT.run("a key in use before FULL", FULL, """
             reverse(0, 1, 0) = 0
             reverse(1, 1, 100) = 0
@@ -140,7 +142,8 @@ public final class RefusalOrderTest {
         for (String amount : new String[] {"0", "-1", "100001", "-2147483648", "2147483647"}) {
             SCRIPT.run("BAD in every state", Scenes.EVERY_STATE, Script.lines("present(1, #, " + amount + ") = BAD", 1, 11));
         }
-        SCRIPT.run("DUPLICATE, not OVER, in states 6 to 9", Scenes.EVERY_STATE, Script.lines("present(1, #, 100000) = DUPLICATE", 6, 10));
+        SCRIPT.run("DUPLICATE, not OVER, in states 6 to 9", Scenes.EVERY_STATE,
+            Script.lines("present(1, #, 100000) = DUPLICATE", 6, 10));
         SCRIPT.run("ABSENT before OVER", Scenes.EVERY_STATE, Script.each("present(1, #, 100000) = ABSENT", 1, 4, 5, 11));
         SCRIPT.run("OVER before SHORT", """
             route(1, 0, 0) = true
@@ -167,11 +170,14 @@ public final class RefusalOrderTest {
     private static void disputes() {
         SCRIPT.run("chargeback after a long time", Scenes.EVERY_STATE, "tick(100) = 150",
             Script.lines("chargeback(1, #) = ABSENT", 1, 5), "chargeback(1, 11) = ABSENT", "chargeback(1, 6) = LATE",
-            Script.lines("chargeback(1, #) = 0", 7, 9), "chargeback(1, 10) = LATE", "chargeback(1, 0) = BAD", "chargeback(4, 6) = BAD");
+            Script.lines("chargeback(1, #) = 0", 7, 9), "chargeback(1, 10) = LATE",
+            "chargeback(1, 0) = BAD", "chargeback(4, 6) = BAD");
         SCRIPT.run("represent after a long time", Scenes.EVERY_STATE, "tick(100) = 150",
             Script.lines("represent(1, #) = ABSENT", 1, 6), "represent(1, 11) = ABSENT", "represent(1, 7) = LATE",
-            "represent(1, 8) = 0", "represent(1, 9) = LATE", "represent(1, 10) = ABSENT", "represent(1, 0) = BAD", "represent(4, 7) = BAD");
-        SCRIPT.run("reverse after a long time", Scenes.EVERY_STATE, "tick(100) = 150", Script.lines("reverse(1, #, 0) = LATE", 6, 10),
+            "represent(1, 8) = 0", "represent(1, 9) = LATE", "represent(1, 10) = ABSENT",
+            "represent(1, 0) = BAD", "represent(4, 7) = BAD");
+        SCRIPT.run("reverse after a long time", Scenes.EVERY_STATE, "tick(100) = 150",
+            Script.lines("reverse(1, #, 0) = LATE", 6, 10),
             Script.each("reverse(1, #, 0) = 0", 1, 4, 5), Script.each("reverse(1, #, 0) = 100", 2, 3));
     }
 }
