@@ -34,6 +34,7 @@ public final class LostChangesTest {
     public static void main(String[] args) {
         theLatestOfSixteen();
         withTicksBetween();
+        withATickBeforeTheCrash();
         aSeventeenth();
         anApprovalAsTheSeventeenth();
         eachKindAlone();
@@ -80,6 +81,22 @@ public final class LostChangesTest {
             compare("the latest " + n + " of 16 are lost, the ticks are not",
                 List.of(Scenes.WRITTEN, join(all), "crash(" + n + ") = true"),
                 List.of(Scenes.WRITTEN, join(kept), "flush() = " + (16 - n)));
+        }
+    }
+
+    /** Between the changes and the crash the clock goes on to where holds lapse and chargebacks are closed, and over it. */
+    private static void withATickBeforeTheCrash() {
+        List<String> changes = Arrays.asList(Scenes.CHANGES);
+        for (int ticks : new int[] {9, 10, 29, 30, 31, 32, 49, 50, 51, 100}) {
+            String tick = "tick(" + ticks + ") = " + (50 + ticks);
+            for (int n = 0; n <= 16; n++) {
+                compare("the latest " + n + " of 16 are lost after " + tick,
+                    List.of(Scenes.EVERY_STATE, tick, "crash(" + n + ") = true"),
+                    List.of(Scenes.WRITTEN, join(changes.subList(0, 16 - n)), tick, "flush() = " + (16 - n)));
+            }
+            for (String change : FURTHER) {
+                compare("lost after " + tick + ": " + change, List.of(FLUSHED, change, tick, "crash(1) = true"), List.of(FLUSHED, tick));
+            }
         }
     }
 

@@ -39,6 +39,15 @@ final class Script {
         return text.toString();
     }
 
+    /** A line for each of the arguments 0, 1, .., with the answer that is due to it: all positions, say. */
+    static String row(String method, long... answers) {
+        StringBuilder text = new StringBuilder();
+        for (int i = 0; i < answers.length; i++) {
+            text.append(method + "(" + i + ") = " + answers[i] + "\n");
+        }
+        return text.toString();
+    }
+
     /** What lies just outside of a range on both sides, and the least and greatest int. */
     static long[] outside(int low, int high) {
         return new long[] {low - 1, high + 1, Integer.MIN_VALUE, Integer.MAX_VALUE};
