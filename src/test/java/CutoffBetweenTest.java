@@ -105,7 +105,8 @@ public final class CutoffBetweenTest {
             "state(1, 1) = 7\n" + Script.row("position", 0, -500, 0, 0, 0, 0, 500, 0, 0)
                 + Script.row("settled", 0, 480, 0, 0, 0, 0, -485, 0, 5) + reconciled(0, 0) + "cutoff() = 1",
             "state(1, 1) = 6\n" + NO_POSITION + Script.row("settled", 0, 480, 0, 0, 0, 0, -485, 0, 5) + reconciled(0, 0) + "cutoff() = 0",
-            "state(1, 1) = 6\n" + Script.row("position", 0, 480, 0, 0, 0, 0, -485, 0, 5) + NONE_SETTLED + reconciled(1, 500) + "cutoff() = 1",
+            "state(1, 1) = 6\n" + Script.row("position", 0, 480, 0, 0, 0, 0, -485, 0, 5)
+                + NONE_SETTLED + reconciled(1, 500) + "cutoff() = 1",
             "state(1, 1) = 2\n" + NO_POSITION + NONE_SETTLED + reconciled(0, 0) + "cutoff() = 0",
         };
         for (int n = 0; n < left.length; n++) {
